@@ -689,20 +689,14 @@ public final class PaperStorm {
             for (int cell = 0; cell < CELLS; cell++) {
                 regionOfCell[cell] = NONE;
             }
+            queued = 0;
             int count = 0;
-            for (int cell = 0; cell < CELLS; cell++) {
-                if (regionOfCell[cell] == NONE) {
-                    floodFrom(sheet, cell, count);
+            for (int next = 0; next < CELLS; next++) {
+                // Once every queued cell was looked at, the region is whole and another one begins.
+                if (next == queued) {
+                    enter(firstUnreached(), count);
                     count++;
                 }
-            }
-            return count;
-        }
-
-        private void floodFrom(Sheet sheet, int firstCell, int region) {
-            queued = 0;
-            enter(firstCell, region);
-            for (int next = 0; next < queued && next < CELLS; next++) {
                 int cell = queue[next];
                 int row = cell / SIDE;
                 int column = cell % SIDE;
@@ -711,6 +705,17 @@ public final class PaperStorm {
                 step(sheet, cell, row, column - 1);
                 step(sheet, cell, row, column + 1);
             }
+            return count;
+        }
+
+        private int firstUnreached() {
+            int first = 0;
+            for (int cell = CELLS - 1; cell >= 0; cell--) {
+                if (regionOfCell[cell] == NONE) {
+                    first = cell;
+                }
+            }
+            return first;
         }
 
         private void step(Sheet sheet, int cell, int toRow, int toColumn) {

@@ -117,6 +117,15 @@ public final class FrontsTest {
         Checks.fill(storm, new int[][] {
             {0, 9, 18, 27, 36}, {9, 18, 27, 36, 45}, {18, 27, 36, 45, 54}, {27, 36, 45, 54, 63}, {36, 45, 54, 63, 73}});
         Checks.due("13 adjacent cells alone", storm.steepest(), 10);
+        int[] rising = {3, 7, 37, 40, 41};
+        Checks.fill(storm, new int[][] {rising, rising, rising, rising, rising});
+        Checks.due("13 within rows alone", storm.steepest(), 30);
+        storm.shift('e');
+        Checks.due("13 at the end of the row too", storm.steepest(), 38);
+        for (int cell = 0; cell < 25; cell++) {
+            storm.setPressure(cell / 5, cell % 5, rising[cell / 5]);
+        }
+        Checks.due("13 within columns alone", storm.steepest(), 30);
     }
 
     private static void regionCounts() {
