@@ -2,8 +2,9 @@ import java.util.Random;
 
 /** All promises: long runs of calls, drawn from a fixed seed, must answer as the model does. */
 public final class ModelTest {
-    private static final int RUNS = 300;
-    private static final int CALLS = 512;
+    private static final int RUNS = 360;
+    // A text and its execution, 79 calls at most, can begin with the last of these; an object has 512.
+    private static final int CALLS = 434;
     private static final String[] MODIFYING = {
         "setPressure", "setPressure", "setPressure", "foldRow", "foldColumn", "shift", "setThreshold", "setThreshold",
         "setWeight", "setWeight", "issue", "issue", "withdraw", "observe", "observe", "undo", "undo", "save", "restore"};
