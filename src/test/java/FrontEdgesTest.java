@@ -11,6 +11,7 @@ public final class FrontEdgesTest {
         detours();
         corners();
         edgesOfTheSheet();
+        askedAlone();
         numbersOfRegions();
         Checks.finish("FrontEdgesTest");
     }
@@ -249,6 +250,25 @@ public final class FrontEdgesTest {
         Checks.due("17 " + what, storm.isSameRegion(row, column, otherRow, otherColumn), false);
         Checks.due("16 " + what, storm.regionSize(otherRow, otherColumn), 1);
         dueRegions(what, storm, 3);
+    }
+
+    /** Sizes and regions follow each change, without a count of regions in between. */
+    private static void askedAlone() {
+        Edges.On[] changes = {
+            storm -> storm.setPressure(0, 0, 99), storm -> storm.setThreshold(50), storm -> storm.setThreshold(49),
+            storm -> storm.foldRow(2), PaperStorm::undo, storm -> storm.shift('s'),
+            storm -> Checks.run(storm, "set 1 0 50;set 0 0 1"), PaperStorm::restore};
+        int[] sizes = {1, 25, 1, 25, 1, 24, 1, 25};
+        PaperStorm sized = new PaperStorm();
+        PaperStorm compared = new PaperStorm();
+        sized.save();
+        compared.save();
+        for (int index = 0; index < changes.length; index++) {
+            changes[index].answer(sized);
+            changes[index].answer(compared);
+            Checks.due("16 after change " + index, sized.regionSize(0, 0), sizes[index]);
+            Checks.due("17 after change " + index, compared.isSameRegion(0, 0, 4, 4), sizes[index] > 1);
+        }
     }
 
     /** "calm for 1, breeze for 2 and 3, gale for 4 to 7, and storm for 8 and more" */
